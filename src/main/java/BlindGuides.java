@@ -323,7 +323,7 @@ public final class BlindGuides {
 
     private int draw(int n) {
         drawn = (int) ((drawn * 1103515245L + 12345L) & 0x7fffffffL);
-        return n > 0 ? drawn / 65536 % n : 0;
+        return drawn / 65536 % Math.max(n, 1);
     }
 
     // ---- tried
@@ -589,6 +589,8 @@ public final class BlindGuides {
             guides = 0;
             clients = 0;
             moons = 0;
+            // of a city without moons every night is the first one's
+            put(moonRow, 0, 0);
             for (int x = 0; x < count; x++) {
                 setCrossing(x, 0, x, x, x);
             }
@@ -642,7 +644,7 @@ public final class BlindGuides {
         }
 
         private int moonOf(int night) {
-            return moons > 0 ? at(moonRow, night % moons) : 0;
+            return at(moonRow, night % Math.max(moons, 1));
         }
 
         private int endOf(int x, int turn) {
