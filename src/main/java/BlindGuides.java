@@ -1111,7 +1111,7 @@ public final class BlindGuides {
             }
             waiting = 0;
             reach(set, 0, 0);
-            for (int i = 0; i < waiting; i++) {
+            for (int i = 0; i < SETS && i < waiting; i++) {
                 int reached = at(queue, i);
                 if (isFound(reached, x)) {
                     return at(inFigures ? figures : steps, reached);
