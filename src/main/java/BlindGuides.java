@@ -294,14 +294,14 @@ public final class BlindGuides {
         return plan.moonOf(now.nights) >= BRIGHT_MOON ? price / 2 : price;
     }
 
-    /** Hires the guide, who can lead the client: what is paid for it, which the most in all may cut. */
+    /** Hires the guide, who can lead the client: his price, whole even where all that is paid cannot rise by as much. */
     private int leadHome(int g, int e, int streets) {
-        int pay = Math.min(priceOf(g, streets), MOST_PAID - now.paid);
-        now.paid += pay;
+        int price = priceOf(g, streets);
+        now.paid = Math.min(now.paid + price, MOST_PAID);
         now.home |= 1 << e;
         put(now.stands, g, at(plan.to, e));
         put(now.heads, g, at(now.heads, g) | 1 << e);
-        return pay;
+        return price;
     }
 
     private void passNightByDraws() {

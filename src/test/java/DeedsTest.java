@@ -79,32 +79,44 @@ public final class DeedsTest {
         Check.due("a wall where the client is and goes", x.hire(0, 2), 0);
     }
 
-    /** Clients of one street each, who pay 99, in a city whose walls come and go. */
+    /** Clients of seven streets each, who pay 7 times 98 (999999 is no multiple of it), in 512 calls at most. */
     private static void hireUpToTheMost() {
-        BlindGuides x = Check.cityOf("n2;c0 1 1 1;c0 0 0 0;g0 99 3;e0 1;e1 0;e0 1;e1 0;e0 1;e1 0;");
-        for (int i = 0; i < 200 && x.told(8) < 990000; i++) {
-            int ahead = x.told(8);
-            int behind = x.drift(60);
-            Check.due("drift(60) pays 99 for each", Math.min((behind - ahead) % 99, 0), 0);
-            Check.due("told(8) behind drift", x.told(8), behind);
+        BlindGuides x = Check.cityOf("n8;c0 1 1 1;c0 2 2 2;c0 3 3 3;c0 4 4 4;c0 5 5 5;c0 6 6 6;c0 7 7 7;g0 98 255;e0 7;e0 7;e0 7;e0 7;e0 7;");
+        int paid = 0;
+        for (int i = 0; i < 9; i++) {
+            // a seed by whose draws no wall is built on the way
+            x.seed(161313);
+            paid = x.drift(60);
         }
-        x.wall(0, false);
-        x.wall(1, false);
-        for (int i = 0; i < 200 && x.told(8) < 999999; i++) {
-            if (x.told(7) == 63) {
+        Check.due("drift(60), nine times", paid, 9 * 150 * 686);
+        for (int i = 0; i < 100 && paid < 994000; i++) {
+            x.seed(161313);
+            paid = x.drift(1);
+        }
+        int ahead = 0;
+        for (int i = 0; i < 20 && paid < 999999; i++) {
+            if (x.told(7) == 31) {
                 x.night(1);
             }
             int e = Integer.numberOfTrailingZeros(~x.told(7));
-            int ahead = x.told(8);
-            Check.due("leads(0, " + e + ", 1)", x.leads(0, e, 1), 99);
-            Check.due("hire(0, " + e + ") at " + ahead, x.hire(0, e), Math.min(99, 999999 - ahead));
+            ahead = paid;
+            Check.due("leads(0, " + e + ", 1)", x.leads(0, e, 1), 686);
+            Check.due("hire(0, " + e + ") at " + ahead, x.hire(0, e), 686);
+            paid = x.told(8);
+            Check.due("told(8) behind " + ahead, paid, Math.min(ahead + 686, 999999));
         }
+        Check.due("told(8) ahead of the hire that passes the most", ahead, 999502);
         Check.due("told(8): the most", x.told(8), 999999);
+        x.undo();
+        Check.due("told(8) with that hire undone", x.told(8), 999502);
         x.night(1);
-        Check.due("leads(0, 0, 1) at the most", x.leads(0, 0, 1), 99);
-        Check.due("hire(0, 0) at the most", x.hire(0, 0), 0);
+        Check.due("the hire that passes the most, once more", x.hire(0, 4), 686);
+        x.night(1);
+        Check.due("leads(0, 0, 1) at the most", x.leads(0, 0, 1), 686);
+        Check.due("hire(0, 0) at the most", x.hire(0, 0), 686);
+        Check.due("told(8) cannot rise", x.told(8), 999999);
         Check.due("the client is home all the same", x.told(7), 1);
-        Check.due("match(-3) at the most", x.match(-3), 99);
+        Check.due("match(-3) at the most", x.match(-3), 686);
         Check.due("drift(60) at the most", x.drift(60), 999999);
     }
 

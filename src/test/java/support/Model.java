@@ -207,12 +207,12 @@ final class Model {
     }
 
     private int hired(int g, int e) {
-        int ahead = so.paid;
-        so.paid = Math.min(999999, ahead + price(g, wayFor(g, e).length()));
+        int price = price(g, wayFor(g, e).length());
+        so.paid = Math.min(999999, so.paid + price);
         so.home[e] = true;
         so.stands[g] = told.clients.get(e)[1];
         so.heads[g] |= 1 << e;
-        return so.paid - ahead;
+        return price;
     }
 
     int nowhere(int g, int n) {
