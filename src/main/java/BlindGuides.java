@@ -41,9 +41,9 @@ public final class BlindGuides {
         text = new int[MOST_LETTERS];
         letters = 0;
         faultAt = NONE;
-        reader = new Reader();
         plan = new City();
         draft = new City();
+        reader = new Reader(draft);
         now = new State();
         past = new Past();
         images = new Images();
@@ -729,7 +729,12 @@ public final class BlindGuides {
         private int place;
         private int faultFound;
         private int faultAt = NONE;
+        /** There always is one: it is asked without a look whether it is there. */
         private City city;
+
+        private Reader(City first) {
+            city = first;
+        }
 
         /** The number of the fault, or 0; where it is stands in faultAt then. */
         private int read(int[] text, int count, City into) {
