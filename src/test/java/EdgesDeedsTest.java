@@ -651,6 +651,9 @@ public final class EdgesDeedsTest {
                 Edge.due("all is as it was kept", look(x).equals(kept) ? 1 : 0, 1);
                 Edge.due("told(13)", x.told(13), 0);
                 Edge.due("undo()", x.undo(), NOT);
+                x.night(2);
+                Edge.due("undo() of a deed behind it", x.undo(), 0);
+                Edge.due("all is as it was kept, undone", look(x).equals(kept) ? 1 : 0, 1);
                 Edge.due("told(10): what was heard stays", x.told(10), 0);
                 Edge.due("told(12): the book stays", x.told(12), round + 1);
                 Edge.due("the seed", x.seed(8), 1234567);
