@@ -25,9 +25,7 @@ public final class BlindGuides {
     private int letters;
     private int faultAt;
     private final Reader reader;
-    /** The city that is so, and the one that the next text is read into: a text with a fault leaves the first alone. */
     private City plan;
-    private City draft;
     private final State now;
     private final Past past;
     private final Images images;
@@ -41,9 +39,8 @@ public final class BlindGuides {
         text = new int[MOST_LETTERS];
         letters = 0;
         faultAt = NONE;
+        reader = new Reader();
         plan = new City();
-        draft = new City();
-        reader = new Reader(draft);
         now = new State();
         past = new Past();
         images = new Images();
@@ -69,15 +66,13 @@ public final class BlindGuides {
     }
 
     public int city() {
-        int found = reader.read(text, letters, draft);
+        int found = reader.read(text, letters);
         letters = 0;
         faultAt = reader.faultAt;
         if (found != 0) {
             return -10 - found;
         }
-        City before = plan;
-        plan = draft;
-        draft = before;
+        plan = reader.giveFor(plan);
         now.startIn(plan);
         past.clear();
         images.clear();
@@ -565,7 +560,7 @@ public final class BlindGuides {
         return states;
     }
 
-    /** What a text tells; it stays as it is until the next text is read into it. */
+    /** What a text tells; two take turns, the one that is so and the reader's. */
     private static final class City {
         private int crossings;
         private int toldCrossings;
@@ -729,21 +724,16 @@ public final class BlindGuides {
         private int place;
         private int faultFound;
         private int faultAt = NONE;
-        /** There always is one: it is asked without a look whether it is there. */
-        private City city;
-
-        private Reader(City first) {
-            city = first;
-        }
+        /** Not the one that is so: a text with a fault leaves that alone. There always is one. */
+        private City city = new City();
 
         /** The number of the fault, or 0; where it is stands in faultAt then. */
-        private int read(int[] text, int count, City into) {
+        private int read(int[] text, int count) {
             letters = text;
             length = count;
             place = 0;
             faultFound = 0;
             faultAt = NONE;
-            city = into;
             city.startWith(0);
             skipBlanks();
             for (int i = 0; i < MOST_LETTERS && place < length && faultFound == 0; i++) {
@@ -751,6 +741,13 @@ public final class BlindGuides {
                 skipBlanks();
             }
             return faultFound;
+        }
+
+        /** The city that was read; the next text is read into the other. */
+        private City giveFor(City other) {
+            City read = city;
+            city = other;
+            return read;
         }
 
         private void readClause() {

@@ -98,6 +98,7 @@ public final class LanguageTest {
         while (banned.find()) {
             due("the source has no " + banned.group(), false);
         }
+        due("no part of an object is handed to another as both are made", !Pattern.compile("= new [A-Z]\\w*\\([^)]").matcher(code).find());
         due("no loop without an end", !Pattern.compile("while \\(true\\)|for \\(;;\\)").matcher(code).find());
         // an index stands in the rows' three helpers and in the reader's letter(), each behind its test
         int indexed = 0;
